@@ -511,35 +511,28 @@ public final class VanRounds {
             return comings[slot * PLACES + to];
         }
 
-        /** Nobody is overtaken on a street, so the place come to soonest is never come to sooner. */
+        /**
+         * Goes over all streets till no place is come to sooner. Nobody is overtaken on one, so the
+         * best way passes no place twice: to go over them as often as there are places is enough.
+         */
         private void walk(int from, int minute, int base) {
             for (int place = 0; place < PLACES; place++) comings[base + place] = NEVER;
             comings[base + from] = minute;
-            int settled = 0;
-            for (int step = 0; step < PLACES; step++) {
-                int next = NONE;
-                int soonest = DAY;
+            boolean sooner = true;
+            for (int round = 0; round < PLACES && sooner; round++) {
+                sooner = false;
                 for (int place = 0; place < PLACES; place++) {
-                    if ((settled >> place & 1) == 0 && comings[base + place] < soonest) {
-                        next = place;
-                        soonest = comings[base + place];
+                    int out = comings[base + place];
+                    if (out >= DAY) continue;
+                    int street = place * PLACES * HOURS + out / HOUR;
+                    for (int to = 0; to < PLACES; to++, street += HOURS) {
+                        if (takes[street] == 0) continue;
+                        int come = Math.min(out + takes[street], later[street]);
+                        if (come >= comings[base + to]) continue;
+                        comings[base + to] = come;
+                        sooner = true;
                     }
                 }
-                if (next == NONE) return;
-                settled |= 1 << next;
-                setOut(next, soonest, base);
-            }
-        }
-
-        private void setOut(int place, int minute, int base) {
-            int street = place * PLACES * HOURS + minute / HOUR;
-            for (int to = 0; to < PLACES; to++) {
-                if (takes[street] != 0) {
-                    int come = minute + takes[street];
-                    if (later[street] < come) come = later[street];
-                    if (come < comings[base + to]) comings[base + to] = come;
-                }
-                street += HOURS;
             }
         }
     }

@@ -20,6 +20,7 @@ public final class RandomRunsTest {
     }
 
     public static void main(String[] args) {
+        Watchdog.start("RandomRunsTest");
         int runs = args.length > 0 ? Integer.parseInt(args[0]) : 1500;
         int bad = 0;
         for (long seed = 1; seed <= runs && bad < 3; seed++) {
