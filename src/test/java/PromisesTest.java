@@ -197,6 +197,10 @@ public final class PromisesTest {
         due("in hour 6", x.way(3, 4, 360), 459);
         due("in hour 7", x.way(3, 4, 420), 519);
         due("and on by the next", x.way(3, 5, 55), 151);
+        VanRounds far = new VanRounds();
+        for (int place = 0; place < 7; place++) far.street(place, place + 1, 3);
+        due("over all places", far.way(0, 7, 0), 21);
+        due("and back", far.way(7, 0, 100), 121);
         refused(BEYOND, x.way(8, 0, 0), x.way(0, 8, 0), x.way(-1, 0, 0), x.way(0, -1, 0), x.way(0, 1, 480),
                 x.way(0, 1, -1), x.way(2, 2, 480), x.way(LOW, LOW, LOW), x.way(HIGH, HIGH, HIGH));
     }
