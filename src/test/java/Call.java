@@ -7,6 +7,20 @@ record Call(String name, int... args) {
         "where", "put", "pair", "take", "move", "cross", "turn", "build", "better", "least", "undo", "clear",
         "count", "lay", "tear", "row", "copy", "status"};
 
+    /** A call as a line of words: its name and its numbers, LOW and HIGH the least and the greatest of all. */
+    static Call of(String line) {
+        String[] words = line.split(" ");
+        int[] args = new int[words.length - 1];
+        for (int k = 0; k < args.length; k++) args[k] = number(words[k + 1]);
+        return new Call(words[0], args);
+    }
+
+    private static int number(String word) {
+        if (word.equals("LOW")) return Integer.MIN_VALUE;
+        if (word.equals("HIGH")) return Integer.MAX_VALUE;
+        return Integer.parseInt(word);
+    }
+
     int on(VanRounds x) {
         int[] a = Arrays.copyOf(args, 4);
         return switch (name) {
