@@ -22,6 +22,7 @@ public final class ChangeEdgesTest {
         moveRefused();
         movePair();
         cross();
+        crossOfOnes();
         crossRefused();
         crossFull();
         turn();
@@ -254,6 +255,7 @@ public final class ChangeEdgesTest {
             x.due(0, "take 0");
             x.due(NO, "take 0");
         });
+        // no call shows this refusal: to leave out a stop delays none, and what is aboard goes with its pair
         edges.edge(18, "or a ROUND wouldn't FIT", x -> {
             line(x);
             x.make("slow 0 1 0 99", "slow 0 1 1 10", "stop 1 479 0 0", "stop 0 60479 0 0", "put 0 0 0");
@@ -394,6 +396,28 @@ public final class ChangeEdgesTest {
             x.round(0);
             x.round(1, 0);
             x.due(2, "count 4");
+        });
+    }
+
+    private static void crossOfOnes() {
+        edges.edge(20, "each call by which THE PLAN became another one can be taken back", x -> {
+            three(x);
+            x.make("put 0 0 0", "put 1 1 0");
+            x.due(60, "cross 0 0 1 0");
+            x.round(0, 1);
+            x.round(1, 0);
+            x.due(3, "count 4");
+            x.due(60, "undo");
+            x.round(0, 0);
+            x.round(1, 1);
+        });
+        edges.edge(21, "each call by which THE PLAN became another one can be taken back", x -> {
+            three(x);
+            x.make("put 0 0 0", "put 1 0 1");
+            x.due(40, "turn 0 0 1");
+            x.due(3, "count 4");
+            x.due(40, "undo");
+            x.round(0, 0, 1);
         });
     }
 

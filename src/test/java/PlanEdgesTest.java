@@ -189,6 +189,12 @@ public final class PlanEdgesTest {
             x.round(0, 11, 10, 9, 8, 7, 6, 5, 4, 3, 2, 0, 1);
             x.due(0, "build", "better 100", "cost -1", "undo", "count 4");
         });
+        edges.edge(22, "12 in all", x -> {
+            x.make("van 9 479 0");
+            for (int stop = 0; stop < 12; stop++) x.make("stop 0 479 0 0");
+            x.due(12, "build");
+            x.round(0, 11, 10, 9, 8, 7, 6, 5, 4, 3, 2, 1, 0);
+        });
         edges.edge(22, TAKEN_BACK, x -> {
             three(x);
             x.make("put 1 0 0");
@@ -292,6 +298,33 @@ public final class PlanEdgesTest {
             x.make("stop 11 479 0 0", "stop 23 479 0 0", "stop 3 479 0 0", "pair 0 0 0 1", "put 2 1 0", "shift 0 60");
             x.due(1, "better 100");
             x.round(0, 0, 2, 1);
+        });
+        edges.edge(23, "(it is taken out alone, then PUT)", x -> {
+            line(x);
+            x.make("stop 13 479 0 0", "stop 21 479 0 0", "stop 2 479 0 0", "pair 0 0 0 1", "put 2 0 2");
+            x.due(80, "cost -1");
+            x.due(1, "better 1");
+            x.round(0, 0, 2, 1);
+            x.make("clear", "stop 11 479 0 0", "stop 23 479 0 3", "put 2 0 0", "pair 3 0 1 2");
+            x.due(80, "cost -1");
+            x.due(1, "better 1");
+            x.round(0, 3, 2, 4);
+            x.due(60, "cost -1");
+            x.due(0, "better 1");
+        });
+        edges.edge(23, CHANGES_NOTHING, x -> {
+            three(x);
+            x.make("put 0 0 0", "put 1 1 0", "span 2 29");
+            x.due(NO, "put 2 0 0");
+            x.due(0, "better 0");
+            x.round(0, 0);
+            x.due(3, "why 2 0 1");
+            x.due(1, "better 1");
+            x.round(1, 0, 1);
+            x.due(60, "undo");
+            x.due(0, "better 0", "count 4");
+            x.round(0, 0);
+            x.round(1, 1);
         });
         edges.edge(23, CHANGES_NOTHING, x -> {
             three(x);
@@ -660,6 +693,16 @@ public final class PlanEdgesTest {
             x.due(0, "count 2", "count 3");
             x.make("clear");
             x.due(2, "count 3");
+        });
+        edges.edge(27, "MUST STOPS of these (3)", x -> {
+            x.make("van 9 479 0", "stop 40 479 0 0");
+            x.due(1, "count 3", "count 2");
+            x.make("put 0 0 0");
+            x.due(0, "count 3", "count 2");
+            for (int stop = 1; stop < 12; stop++) x.make("stop 40 479 0 0");
+            x.due(11, "count 3");
+            x.make("take 0");
+            x.due(12, "count 3");
         });
         edges.edge(27, "changes that can be taken back (4)", x -> {
             x.make("van 9 479 0", "stop 0 479 0 0");

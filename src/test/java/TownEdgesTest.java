@@ -66,7 +66,7 @@ public final class TownEdgesTest {
         edges.edge(2, "An object is used for at most 512 calls", x -> {
             for (int k = 0; k < 256; k++) {
                 x.due(k == 0 ? 0 : 1, "street 0 1 " + (k % 99 + 1));
-                x.due(k % 99 + 1, "way 1 0 0");
+                x.due(255 - k + k % 99 + 1, "way 1 0 " + (255 - k));
             }
         });
     }

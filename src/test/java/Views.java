@@ -6,7 +6,7 @@ final class Views {
     static final int COUNT = 4;
     static final int MOST_CALLS = 250;
 
-    private static final String[] LAST_ROUTES = {"lay 0", "row 0", "lay 1", "row 0", "lay 2", "row 0"};
+    private static final String[] LAYS = {"lay 0", "row 0", "lay 1", "row 0", "lay 2", "row 0"};
 
     private final VanRounds x;
     private final List<String> seen = new ArrayList<>();
@@ -53,7 +53,7 @@ final class Views {
         for (int stop = 0; stop < 12; stop++) {
             for (int what = 0; what <= 6; what++) see("look " + stop + " " + what);
         }
-        for (String text : LAST_ROUTES) see(text);
+        for (String text : LAYS) see(text);
     }
 
     private void past() {
@@ -80,7 +80,7 @@ final class Views {
         }
     }
 
-    /** What was told of stops and vans; the load shows in a stop of 50 and how many of those a van takes. */
+    /** What was told of stops and vans: spans, prices and shifts by telling them anew, the rest by a plan that is built. */
     private void told() {
         see("clear");
         for (int stop = 0; stop < 12; stop++) {
