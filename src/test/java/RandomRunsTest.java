@@ -10,6 +10,7 @@ public final class RandomRunsTest {
     private final VanRounds mine = new VanRounds();
     private final Oracle due = new Oracle();
     private final List<Call> made = new ArrayList<>();
+    private final List<Integer> answers = new ArrayList<>();
     private String wrong = null;
 
     private int places, slowest;
@@ -47,6 +48,7 @@ public final class RandomRunsTest {
             wrong = call + " threw " + thrown;
             return;
         }
+        answers.add(got);
         if (got != want) wrong = call + " answered " + got + ", due is " + want;
     }
 
@@ -66,6 +68,19 @@ public final class RandomRunsTest {
         }
         showAll();
         while (wrong == null && made.size() < MOST_CALLS) call("undo");
+        twin();
+    }
+
+    /** An object that never gets the refused calls gives the same answers to all others but status(). */
+    private void twin() {
+        VanRounds twin = new VanRounds();
+        for (int k = 0; wrong == null && k < made.size(); k++) {
+            Call call = made.get(k);
+            int want = answers.get(k);
+            if (want <= -2 && want >= -8 || call.name().equals("status")) continue;
+            int got = call.on(twin);
+            if (got != want) wrong = call + ", call " + (k + 1) + ", answered " + got + " where no call was refused";
+        }
     }
 
     // ---- how a run begins
