@@ -172,7 +172,7 @@ public final class VanRounds {
         switch (what) {
             case 0: return stops.kind[stop];
             case 1: return stops.place[stop];
-            case 2: return stops.amountOf(stop);
+            case 2: return stops.amount[stop];
             case 3: return stops.serve[stop];
             case 4: return stops.mate[stop];
             case 5: return plan.vanWith(stop);
@@ -567,15 +567,12 @@ public final class VanRounds {
         void join(int fetch, int drop) {
             mate[fetch] = drop;
             mate[drop] = fetch;
+            amount[drop] = amount[fetch];
         }
 
         void setSpan(int stop, int span) {
             from[stop] = span / SPAN_BASE;
             to[stop] = span % SPAN_BASE;
-        }
-
-        int amountOf(int stop) {
-            return kind[stop] == DROP ? amount[mate[stop]] : amount[stop];
         }
 
         boolean isAboardAtFirst(int stop) {
@@ -811,7 +808,7 @@ public final class VanRounds {
             }
             if (load > vans.load[van]) return false;
             for (int i = 0; i < size; i++) {
-                int amount = stops.amountOf(row[i]);
+                int amount = stops.amount[row[i]];
                 load += stops.kind[row[i]] == FETCH ? amount : -amount;
                 aboard[i] = load;
                 if (load > vans.load[van]) {
